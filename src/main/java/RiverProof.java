@@ -231,36 +231,14 @@ public final class RiverProof {
         if (now.lacks(mark) || outside(n, 1, 60) || outside(what, 0, 1)) {
             return BAD;
         }
-        int best = 0;
-        int mostSea = -1;
-        for (int reach = 0; reach < REACHES; reach++) {
-            thought.become(now);
-            thought.reaches[mark] = reach;
-            thought.passMonths(n);
-            if (thought.sea > mostSea) {
-                mostSea = thought.sea;
-                best = reach;
-            }
-        }
-        return what == 0 ? best : mostSea;
+        return bestFor(thought.reaches, mark, REACHES, n, what);
     }
 
     public int becomes(int mark, int n, int what) {
         if (now.lacks(mark) || outside(n, 1, 60) || outside(what, 0, 1)) {
             return BAD;
         }
-        int best = 0;
-        int mostSea = -1;
-        for (int kind = 0; kind < KINDS; kind++) {
-            thought.become(now);
-            thought.kinds[mark] = kind;
-            thought.passMonths(n);
-            if (thought.sea > mostSea) {
-                mostSea = thought.sea;
-                best = kind;
-            }
-        }
-        return what == 0 ? best : mostSea;
+        return bestFor(thought.kinds, mark, KINDS, n, what);
     }
 
     public int like(int sheet, int what) {
@@ -594,6 +572,22 @@ public final class RiverProof {
         thought.rubOut(rubbed);
         thought.passMonths(n);
         return thought.dryReaches() == 0;
+    }
+
+    /** Tries each choice for a MARK in a row of the thought river; what is 0 for the best one, 1 for SEA then. */
+    private int bestFor(int[] row, int mark, int choices, int n, int what) {
+        int best = 0;
+        int mostSea = -1;
+        for (int choice = 0; choice < choices; choice++) {
+            thought.become(now);
+            row[mark] = choice;
+            thought.passMonths(n);
+            if (thought.sea > mostSea) {
+                mostSea = thought.sea;
+                best = choice;
+            }
+        }
+        return what == 0 ? best : mostSea;
     }
 
     private void measure(Row row) {
