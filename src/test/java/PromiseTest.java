@@ -373,6 +373,18 @@ public final class PromiseTest {
         eq("13 none left", 0, x.months(100));
         eq("13 none left, no draw", z, x.count(7));
         eq("13 9999 stays", 9999, x.count(1));
+        RiverProof full = new RiverProof();
+        full.rule(0, 99);
+        for (int m = 0; m < 10; m++) {
+            full.pencil(2, 0, 0);
+        }
+        for (int i = 0; i < 100; i++) {
+            full.months(100);
+        }
+        eq("13 the most sea", 99999, full.river(0));
+        eq("13 the most floods", 99999, full.river(1));
+        eq("12 no more sea", 0, full.runs());
+        eq("15 no more floods", 99999, full.behind(9, 1));
     }
 
     private static void monthsOfMarks() {
@@ -474,6 +486,16 @@ public final class PromiseTest {
         // 18 less each month, then a fourth less: 61, 33, 12, 0
         x.water(0, 99);
         eq("16 later", 4, x.dries(0));
+        RiverProof late = withMarks(0, 0, 0, 3, 0, 1);
+        late.rule(0, 0);
+        late.water(0, 3);
+        late.water(1, 3);
+        text(late, "stroke (t=199)*30");
+        eq("16 behind 200 months", 200, late.dries(0));
+        eq("17 behind 200 months", 200, late.rises(1, 4));
+        text(late, "stroke (t=200)*30");
+        eq("16 not by then", NONE, late.dries(0));
+        eq("17 not by then", NONE, late.rises(1, 4));
     }
 
     /** REACH 0 has 18 WATER and two MARKS of 99 INK: 9 and 9 less. */
@@ -531,6 +553,11 @@ public final class PromiseTest {
         eq("19 v 100", BAD, x.ink(0, 1, 100));
         eq("19 v -1", BAD, x.ink(0, 1, -1));
         eq("19 ink stays", 50, x.told(0, 1));
+        text(x, "stroke (i=99)*30");
+        eq("19 the most", 99, x.ink(0, 1, 0));
+        x.turns(0, 3);
+        text(x, "stroke i");
+        eq("19 more ink, more water", NONE, x.ink(0, 1, 14));
     }
 
     private static void place() {
@@ -574,6 +601,7 @@ public final class PromiseTest {
         x.sheet(0, 1, 0);
         eq("22 empty", 0, x.like(0, 0));
         eq("22 empty, apart", 0, x.like(0, 1));
+        eq("22 what 2", BAD, x.like(0, 2));
         // behind one month: 23, 22, 20, 20 ..
         x.sheet(0, 1, 3);
         x.mark(0, 0, 20);
@@ -659,6 +687,9 @@ public final class PromiseTest {
         eq("27 used up", 0, x.count(6));
         eq("27 the last still counts", 13, x.fee());
         eq("27 14", 14, x.count(4));
+        eq("28 text 13", 1, x.textTold(13, 0));
+        eq("28 text 14", BAD, x.textTold(14, 0));
+        eq("28 text 15", BAD, x.textTold(15, 0));
         RiverProof y = new RiverProof();
         eq("27 blanks", 0, text(y, "  fee  ( s + 1 )  "));
         eq("27 no blanks", 1, text(y, "fine(i)"));
@@ -706,6 +737,16 @@ public final class PromiseTest {
         fault("fee \u00ff", 4);
         fault("1 fee", 0);
         fault("fee fee", 4);
+        fault("feea 1", 0);
+        fault("zfee 1", 0);
+        fault("fee sz", 4);
+        fault("fee s`", 5);
+        fault("fee s{", 5);
+        fault("fee 1/", 6);
+        fault("fee 1:", 5);
+        fault("fee 90909", 4);
+        fault("fee 1+(2*3))", 11);
+        fault("fee (s f)", 7);
     }
 
     private static void values() {
@@ -718,6 +759,8 @@ public final class PromiseTest {
         gives("1<2", 1);
         gives("2<2", 0);
         gives("2=2", 1);
+        gives("2=3", 0);
+        gives("2>2", 0);
         gives("3>2", 1);
         gives("2>3", 0);
         gives("5|0", 1);
@@ -789,6 +832,7 @@ public final class PromiseTest {
         RiverProof x = new RiverProof();
         eq("31 missing", NOTHING, x.mark(0, 0, 0));
         eq("31 sheet 4", BAD, x.mark(4, 0, 0));
+        eq("31 sheet -1", BAD, x.mark(-1, 0, 0));
         x.sheet(0, 0, 2);
         x.sheet(1, 1, 2);
         eq("31 place 2", INDEX, x.mark(0, 2, NONE));
@@ -833,6 +877,7 @@ public final class PromiseTest {
         RiverProof x = withMarks(0, 1, 4, 0, 1, 6);
         eq("33 missing", NOTHING, x.reads(0));
         eq("33 sheet 4", BAD, x.reads(4));
+        eq("33 sheet -1", BAD, x.reads(-1));
         x.sheet(0, 1, 0);
         eq("33 empty", NONE, x.reads(0));
         x.sheet(0, 1, 4);
@@ -856,6 +901,9 @@ public final class PromiseTest {
         }
         eq("34 from 4", BAD, x.copy(4, 0, 3, 0, 1));
         eq("34 to -1", BAD, x.copy(0, 0, -1, 0, 1));
+        eq("34 from -1", BAD, x.copy(-1, 0, 0, 0, 1));
+        eq("34 to 4", BAD, x.copy(0, 0, 4, 0, 1));
+        eq("34 to 5", BAD, x.copy(0, 0, 5, 0, 1));
         eq("34 from a missing one", NOTHING, x.copy(3, 0, 0, 0, 99));
         eq("34 to a missing one", NOTHING, x.copy(0, 0, 3, 0, 99));
         eq("34 two sorts", KIND, x.copy(0, 0, 2, 0, 99));
@@ -896,6 +944,8 @@ public final class PromiseTest {
         eq("35 thing -1", BAD, x.lay(0, -1, 0));
         eq("35 mark 1", BAD, x.lay(0, 1, 1));
         eq("35 sheet 4", BAD, x.lay(0, 2, 4));
+        eq("35 sheet -1", BAD, x.lay(0, 2, -1));
+        eq("35 mark -1", BAD, x.lay(0, 1, -1));
         eq("35 missing", NOTHING, x.lay(0, 2, 1));
         eq("35 a mark", 0, x.lay(0, 1, 0));
         eq("35 a sheet", 1, x.lay(0, 2, 0));
