@@ -535,6 +535,10 @@ public final class PromiseTest {
         eq("18 -1", BAD, x.rub(-1));
         eq("18 21", BAD, x.rub(21));
         eq("18 nothing changes", 89, x.told(0, 1));
+        RiverProof last = withMarks(5, 9, 1, 0, 1, 0);
+        last.rule(0, 0);
+        text(last, "stroke (i>0)*30");
+        eq("18 the last ink", 2, last.rub(1));
     }
 
     private static void ink() {
