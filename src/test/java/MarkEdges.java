@@ -177,8 +177,8 @@ final class MarkEdges {
             x.pencil(m == 9 ? 4 : 0, 99, 11);
         }
         // nine times 9 less, and 5 less 9 less 2: each as all is now, not as it will be at its turn
-        e.rows(x, "reachOf 11 1 = 1023", "reachOf 11 2 = -87", "reachOf 10 1 = 0", "set 9 2 0", "reachOf 11 1 = 511",
-            "reachOf 0 1 = 512", "set 0 2 10", "reachOf 11 1 = 510", "reachOf 10 1 = 1");
+        e.rows(x, "reachOf 11 1 = 1023", "reachOf 11 2 = -87", "reachOf 10 1 = 0", "reachOf 10 2 = 0",
+            "set 9 2 0", "reachOf 11 1 = 511", "reachOf 11 2 = -81", "reachOf 0 1 = 512", "reachOf 0 2 = -6", "reachOf 1 2 = 0", "set 0 2 10", "reachOf 11 1 = 510", "reachOf 10 1 = 1");
     }
 
     private static void draws(Edges e) {

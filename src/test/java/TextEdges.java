@@ -68,6 +68,12 @@ final class TextEdges {
             "feefine 1", "fee", ""}) {
             fault(e, key, key.equals("fee") ? 3 : 0);
         }
+        for (String key : new String[] {"stroke", "fee", "fine"}) {
+            for (int i = 0; i < key.length(); i++) {
+                fault(e, key.substring(0, i) + "x" + key.substring(i + 1) + " 1", 0);
+                fault(e, key.substring(0, i) + " " + key.substring(i + 1) + " 1", i == 0 ? 1 : 0);
+            }
+        }
     }
 
     private static void textsAtMost(Edges e) {

@@ -160,11 +160,13 @@ final class ThoughtEdges {
             x.pencil(0, 10, m + 1);
         }
         e.rows(x, "rub 0 = 0", "rub 1 = 1023", "rub 20 = 1023", "set 3 1 9 = 10", "rub 1 = 1015", "rub -1 = BAD", "rub 21 = BAD");
-        // the last INK is rubbed out too, and none is left
-        RiverProof last = still(3);
-        e.rows(last, "pencil 5 9 11", "pencil 0 1 8");
-        e.text(last, "stroke (i>0)*30", 0);
-        e.rows(last, "rub 1 = 2", "set 1 1 99", "rub 1 = 2", "set 1 1 0", "rub 1 = 0");
+        // any INK is rubbed out, the last too, and 0 is left
+        for (int ink = 1; ink < 100; ink++) {
+            RiverProof any = still(3);
+            e.rows(any, "pencil 5 9 11", "pencil 0 " + ink + " 8");
+            e.text(any, "stroke (!(i=0))*30", 0);
+            e.rows(any, "rub 1 = 2", "set 1 1 0 = " + ink, "rub 1 = 0");
+        }
         // a QUERY whose INK is 0 brings 5 where it would bring nothing
         RiverProof query = still(3);
         e.rows(query, "water 8 0", "pencil 2 50 8", "rub 0 = NONE", "rub 1 = 1", "set 0 1 49", "rub 1 = 0");
