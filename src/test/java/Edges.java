@@ -29,6 +29,12 @@ final class Edges {
         "INDEX", RiverProof.INDEX, "SIZE", RiverProof.SIZE, "MIN", Integer.MIN_VALUE, "MAX", Integer.MAX_VALUE);
     private static final Map<String, Method> METHODS = new HashMap<>();
 
+    static {
+        for (Method m : RiverProof.class.getDeclaredMethods()) {
+            METHODS.put(m.getName() + " " + m.getParameterCount(), m);
+        }
+    }
+
     final Due due = new Due("edges");
     private final String document;
     private final boolean[] said;
@@ -36,9 +42,6 @@ final class Edges {
     private String sentence = "";
 
     Edges() throws Exception {
-        for (Method m : RiverProof.class.getDeclaredMethods()) {
-            METHODS.put(m.getName() + " " + m.getParameterCount(), m);
-        }
         // without the document only the answers are held to what is due
         document = Files.exists(DOCUMENT) ? oneLine(Files.readString(DOCUMENT)) : null;
         said = new boolean[document == null ? 0 : document.length()];

@@ -217,6 +217,12 @@ final class ThoughtEdges {
         e.rows(x, "set 0 2 11", "becomes 0 1 0 = 3", "becomes 0 1 1 = 4", "becomes 0 60 0 = 3");
         // to be a STET is best where all others take
         e.rows(still(3), "pencil 0 99 11", "pencil 0 99 11", "water 11 4", "becomes 0 1 0 = 5", "becomes 0 1 1 = 1");
+        // 1 brings 15 only where 0 has left 20, and no KIND that there is adds 0 here and lets others add: as MARK and CARET
+        // 18 and 19 are left, as QUERY 23, as TURNED and STOP 21, as STET 20; a fourth is 5 from QUERY on
+        RiverProof none = still(3);
+        e.rows(none, "water 11 20", "pencil 0 50 11", "pencil 3 60 11");
+        e.text(none, "stroke (i=50)*2+(i=60)*(w=20)*30", 0);
+        e.rows(none, "becomes 0 1 0 = 2", "becomes 0 1 1 = 5");
     }
 
     private static void like(Edges e) {
